@@ -60,6 +60,7 @@ final class PlainMuseum {
     int n;
     int shown;
     int found = 0;
+    int limit = 3000;
     List<Integer> trail = new ArrayList<>();
 
     PlainMuseum() {
@@ -322,8 +323,8 @@ final class PlainMuseum {
                 move(w, p);
                 Integer known = numbers.get(w.key());
                 if (known == null) {
-                    if (all.size() == 3000) {
-                        found = 3000;
+                    if (all.size() == limit) {
+                        found = limit;
                         return 3;
                     }
                     known = all.size();
