@@ -166,13 +166,13 @@ public final class LockMuseum {
         13, 0, 0, 0,
     };
 
-    private final Method method;
+    private final Program program;
     private final Hall hall;
     private final Judge bench;
     private int exhibitShown;
 
     public LockMuseum() {
-        method = new Method();
+        program = new Program();
         hall = new Hall();
         bench = new Judge();
         show(SWAP_EXHIBIT, 2);
@@ -198,11 +198,11 @@ public final class LockMuseum {
         if (!operandFits(kind, 0, a) || !operandFits(kind, 1, b) || !operandFits(kind, 2, c)) {
             throw new IllegalArgumentException("no such register, word, number or instruction");
         }
-        method.rows[i].become(kind, a, b, c);
+        program.rows[i].become(kind, a, b, c);
     }
 
     public void mend() {
-        method.load(instructionsOf(exhibitShown));
+        program.load(instructionsOf(exhibitShown));
     }
 
     public void want(int p) throws IllegalArgumentException, IllegalStateException {
@@ -218,7 +218,7 @@ public final class LockMuseum {
         if (it.what != TRYING && it.what != LEAVING) {
             throw new IllegalStateException("it isn't trying or leaving");
         }
-        hall.advance(p, method);
+        hall.advance(p, program);
         return it.what;
     }
 
@@ -268,7 +268,7 @@ public final class LockMuseum {
         for (int i = 0; i < times; i++) {
             now = now * 1103515245 + 12345;
             int p = (now >>> 16) % hall.count;
-            hall.makeMove(p, method);
+            hall.makeMove(p, program);
             // A move leads out of the inside first, so whoever is inside behind it has just entered.
             if (hall.processes[p].what == INSIDE) {
                 entries++;
@@ -281,7 +281,7 @@ public final class LockMuseum {
         if (attempts < 1 || attempts > MOST_ATTEMPTS) {
             throw new IllegalArgumentException("attempts is not 1 .. 3");
         }
-        return bench.decide(method, hall.count, attempts);
+        return bench.decide(program, hall.count, attempts);
     }
 
     public int states() {
@@ -300,7 +300,7 @@ public final class LockMuseum {
 
     private void show(int exhibit, int processes) {
         exhibitShown = exhibit;
-        method.load(instructionsOf(exhibit));
+        program.load(instructionsOf(exhibit));
         hall.clear(processes);
     }
 
@@ -350,10 +350,10 @@ public final class LockMuseum {
         }
     }
 
-    private static final class Method {
+    private static final class Program {
         final Instruction[] rows = new Instruction[INSTRUCTIONS];
 
-        Method() {
+        Program() {
             for (int i = 0; i < INSTRUCTIONS; i++) {
                 rows[i] = new Instruction();
             }
@@ -433,7 +433,7 @@ public final class LockMuseum {
             }
         }
 
-        void makeMove(int p, Method method) {
+        void makeMove(int p, Program program) {
             Contender it = processes[p];
             if (it.what == LOST) {
                 return;
@@ -443,14 +443,14 @@ public final class LockMuseum {
             } else if (it.what == INSIDE) {
                 it.what = LEAVING;
             }
-            advance(p, method);
+            advance(p, program);
         }
 
-        void advance(int p, Method method) {
+        void advance(int p, Program program) {
             Contender it = processes[p];
             it.steps++;
             for (int done = 0; done <= FREE_LIMIT && it.place < INSTRUCTIONS; done++) {
-                Instruction now = method.rows[it.place];
+                Instruction now = program.rows[it.place];
                 if (now.kind == DONE) {
                     it.end();
                     return;
@@ -583,12 +583,12 @@ public final class LockMuseum {
         private final int[] ending = new int[MOST_STATES];
         private int endings;
 
-        int decide(Method method, int processes, int attempts) {
+        int decide(Program program, int processes, int attempts) {
             start(processes, attempts);
             int verdict = GOOD;
             for (int s = 0; s < found && s < MOST_STATES && verdict == GOOD; s++) {
                 for (int p = 0; p < processes && verdict == GOOD; p++) {
-                    verdict = follow(s, p, method);
+                    verdict = follow(s, p, program);
                 }
             }
             if (verdict == TWO_INSIDE) {
@@ -609,7 +609,7 @@ public final class LockMuseum {
         }
 
         /** Makes the move of process p from state s: the verdict if it ends there, otherwise GOOD. */
-        private int follow(int s, int p, Method method) {
+        private int follow(int s, int p, Program program) {
             restore(s);
             int was = hall.processes[p].what;
             if (was == LOST || (was == IDLE && left[p] == 0)) {
@@ -618,7 +618,7 @@ public final class LockMuseum {
             if (was == IDLE) {
                 left[p]--;
             }
-            hall.makeMove(p, method);
+            hall.makeMove(p, program);
             int move = MOST_PROCESSES * s + p;
             int slot = slotOfHall();
             if (slots[slot] != NONE) {
