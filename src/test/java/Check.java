@@ -10,30 +10,62 @@ final class Check {
 
     private static int made = 0;
     private static int wrong = 0;
+    private static String sentence = "";
 
     private Check() {
     }
 
-    static void due(String call, long got, long want) {
-        made++;
-        if (got != want) {
-            wrong++;
-            System.out.println(call + " answered " + got + ", due is " + want);
+    /** What goes wrong from here on is told under this sentence of the document. */
+    static void under(String words) {
+        sentence = words;
+    }
+
+    /** Each test by itself: one that breaks off is wrong under its sentence, and the next ones still run. */
+    static void each(Act... tests) {
+        for (Act test : tests) {
+            under("a test that has quoted nothing");
+            try {
+                test.perform();
+            } catch (RuntimeException e) {
+                judge(false, "the test broke off by " + e);
+                e.printStackTrace(System.out);
+            }
         }
+    }
+
+    static void due(String call, long got, long want) {
+        judge(got == want, call + " answered " + got + ", due is " + want);
+    }
+
+    static void same(String what, String got, String want) {
+        judge(got.equals(want), what + ":\n  is  " + got + "\n  due " + want);
     }
 
     /** The exception must be of the very class: nothing else may reach the caller. */
     static void refused(String call, Class<? extends RuntimeException> due, Act act) {
-        String got = "nothing";
+        String got = thrownBy(act);
+        judge(got.equals(due.getSimpleName()), call + " threw " + got + ", due is " + due.getSimpleName());
+    }
+
+    static void taken(String call, Act act) {
+        String got = thrownBy(act);
+        judge(got.equals("nothing"), call + " threw " + got + ", due is nothing");
+    }
+
+    private static String thrownBy(Act act) {
         try {
             act.perform();
         } catch (RuntimeException e) {
-            got = e.getClass().getSimpleName();
+            return e.getClass().getSimpleName();
         }
+        return "nothing";
+    }
+
+    private static void judge(boolean right, String story) {
         made++;
-        if (!got.equals(due.getSimpleName())) {
+        if (!right) {
             wrong++;
-            System.out.println(call + " threw " + got + ", due is " + due.getSimpleName());
+            System.out.println(sentence.isEmpty() ? story : sentence + "\n  " + story);
         }
     }
 
@@ -53,19 +85,11 @@ final class Check {
             }
         }
         text.append("| ").append(x.states()).append(" :");
-        for (int i = 0; i < x.trail(-1); i++) {
+        int moves = x.trail(-1);
+        for (int i = 0; i < moves; i++) {
             text.append(' ').append(x.trail(i));
         }
         return text.toString();
-    }
-
-    static void same(String what, String got, String want) {
-        made++;
-        if (!got.equals(want)) {
-            wrong++;
-            System.out.println(what + ": is    " + got);
-            System.out.println(what + ": due   " + want);
-        }
     }
 
     static int wrongSoFar() {

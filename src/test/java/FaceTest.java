@@ -8,10 +8,15 @@ import java.util.List;
 
 /** The public face, and rules 1 and 5 of LANGUAGE.md as far as the compiled class shows them. */
 public final class FaceTest {
+    private static final String ARGUMENT = " throws IllegalArgumentException";
+    private static final String STATE = ARGUMENT + " IllegalStateException";
+    private static final String INDEX = " throws IndexOutOfBoundsException";
     private static final String[] METHODS = {
-        "about(int int) int", "change(int int int int int) void", "exhibit(int int) void", "judge(int) int",
-        "leave(int) void", "mend() void", "register(int int) int", "run(int int) int", "states() int",
-        "step(int) int", "trail(int) int", "want(int) void", "word(int) int",
+        "about(int int) int" + ARGUMENT, "change(int int int int int) void" + ARGUMENT,
+        "exhibit(int int) void" + ARGUMENT, "judge(int) int" + ARGUMENT, "leave(int) void" + STATE, "mend() void",
+        "register(int int) int" + ARGUMENT + " IndexOutOfBoundsException", "run(int int) int" + ARGUMENT,
+        "states() int", "step(int) int" + STATE, "trail(int) int" + INDEX, "want(int) void" + STATE,
+        "word(int) int" + INDEX,
     };
 
     public static void main(String[] args) {
@@ -49,11 +54,16 @@ public final class FaceTest {
     }
 
     private static String form(Method m) {
-        List<String> types = new ArrayList<>();
-        for (Class<?> type : m.getParameterTypes()) {
-            types.add(type.getName());
+        String thrown = m.getExceptionTypes().length == 0 ? "" : " throws " + names(m.getExceptionTypes());
+        return m.getName() + "(" + names(m.getParameterTypes()) + ") " + m.getReturnType().getName() + thrown;
+    }
+
+    private static String names(Class<?>[] types) {
+        List<String> names = new ArrayList<>();
+        for (Class<?> type : types) {
+            names.add(type.getSimpleName());
         }
-        return m.getName() + "(" + String.join(" ", types) + ") " + m.getReturnType().getName();
+        return String.join(" ", names);
     }
 
     private static void fields(Class<?> face) {
