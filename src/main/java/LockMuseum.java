@@ -265,7 +265,8 @@ public final class LockMuseum {
         }
         int entries = 0;
         int now = seed;
-        for (int i = 0; i < times; i++) {
+        // There always is a process: rule 7 of the language asks that a divisor is looked at all the same.
+        for (int i = 0; i < times && hall.count > 0; i++) {
             now = now * 1103515245 + 12345;
             int p = (now >>> 16) % hall.count;
             hall.makeMove(p, program);

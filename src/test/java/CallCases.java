@@ -1,4 +1,4 @@
-/** Terms: calls that throw; and what the document says of an object's calls as a whole. */
+/** Terms: calls that throw, and the constant. */
 final class CallCases {
     private static final Class<IllegalArgumentException> ARGUMENT = IllegalArgumentException.class;
     private static final Class<IllegalStateException> STATE = IllegalStateException.class;
@@ -13,7 +13,7 @@ final class CallCases {
 
     static void all() {
         Check.each(CallCases::refusedCallChangesNothing, CallCases::firstNamedIsThrown,
-            CallCases::processThatIsThereNoMore, CallCases::none, CallCases::calls512);
+            CallCases::processThatIsThereNoMore, CallCases::none);
     }
 
     /** Process 0 is lost past its door, 1 tries and was overtaken, 2 is inside or leaves; a trail was found. */
@@ -113,20 +113,5 @@ final class CallCases {
         Document.says("Terms", "The constants: `NONE = -1`: There is none.");
         Check.due("NONE", LockMuseum.NONE, -1);
         Check.due("trail(NONE)", new LockMuseum().trail(LockMuseum.NONE), 0);
-    }
-
-    private static void calls512() {
-        Document.says("What it is", "An object is used for at most 512 calls after it has been made;");
-        LockMuseum x = new LockMuseum();
-        PlainMuseum y = new PlainMuseum();
-        x.exhibit(2, 3);
-        y.exhibit(2, 3);
-        int verdict = y.judge(2);
-        for (int i = 0; i < 170; i++) {
-            Check.due("call " + (3 * i + 2), x.run(i, 2000), y.run(i, 2000));
-            Check.due("call " + (3 * i + 3), x.judge(2), verdict);
-            Check.due("call " + (3 * i + 4), x.states(), y.states());
-        }
-        Check.due("call 512", x.word(0), y.word(0));
     }
 }

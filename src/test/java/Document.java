@@ -6,10 +6,11 @@ import java.util.Map;
 
 /**
  * The document itself, ../shared/DOC.md: the tests quote its sentences, a quote that doesn't stand there is
- * wrong, and so is a sentence of the terms or of a promise that no test quotes.
+ * wrong, and so is a sentence of what it is, of the terms or of a promise that no test quotes.
  */
 final class Document {
     private static final Path PLACE = Path.of("..", "shared", "DOC.md");
+    private static final Map<String, String> FORMS = new LinkedHashMap<>();
     private static final Map<String, String> SECTIONS = read();
     private static final Map<String, boolean[]> QUOTED = new LinkedHashMap<>();
 
@@ -31,18 +32,33 @@ final class Document {
         }
     }
 
-    /** Each sentence of the terms and of the promises must have been quoted by now. */
+    /** Each sentence of what it is, of the terms and of the promises must have been quoted by now. */
     static void allQuoted() {
         int promises = 0;
+        int others = 0;
         for (String section : SECTIONS.keySet()) {
-            if (section.equals("Terms") || section.startsWith("Promise ")) {
-                promises += section.equals("Terms") ? 0 : 1;
+            boolean promise = section.startsWith("Promise ");
+            boolean other = section.equals("What it is") || section.equals("Terms");
+            promises += promise ? 1 : 0;
+            others += other ? 1 : 0;
+            if (promise || other) {
                 Check.under(section);
                 Check.same("what no test quotes", notQuoted(section), "");
             }
         }
         Check.under("the document");
         Check.due("how many promises it has", promises, 14);
+        Check.due("what it is, and the terms", others, 2);
+    }
+
+    /** The public face as the document writes it, in one line. */
+    static String face() {
+        return SECTIONS.getOrDefault("The public face", "");
+    }
+
+    /** The form of a promise's call, which stands ahead of its first sentence. */
+    static String form(int promise) {
+        return FORMS.getOrDefault("Promise " + promise, "");
     }
 
     private static String notQuoted(String section) {
@@ -72,8 +88,13 @@ final class Document {
 
     private static String plain(String section, String text) {
         String words = text.replaceAll("\\s+", " ").trim();
+        if (!section.startsWith("Promise ")) {
+            return words;
+        }
         // A promise begins with the call's form, which FaceTest looks at.
-        return section.startsWith("Promise ") ? words.replaceFirst("^`[^`]*`: ", "") : words;
+        String[] parts = words.split("`", 3);
+        FORMS.put(section, parts[1]);
+        return parts[2].substring(": ".length());
     }
 
     private static Iterable<String> lines() {

@@ -1,6 +1,7 @@
-/** The document sentence by sentence: each test names its promise, or the terms, and quotes what it tests. */
+/** The document sentence by sentence: each test names its section and quotes what it tests. */
 public final class PromisesTest {
     public static void main(String[] args) {
+        OutlineCases.all();
         KindCases.all();
         StepCases.all();
         ExhibitCases.all();
