@@ -35,8 +35,9 @@ public final class FaceTest {
         List<String> seen = new ArrayList<>();
         for (Field f : FACE.getDeclaredFields()) {
             if (!Modifier.isPrivate(f.getModifiers())) {
-                seen.add(Modifier.toString(f.getModifiers()) + " " + f.getType() + " " + f.getName() + " = "
-                    + f.getInt(null));
+                boolean constant = Modifier.isStatic(f.getModifiers()) && f.getType() == int.class;
+                seen.add(Modifier.toString(f.getModifiers()) + " " + f.getType() + " " + f.getName()
+                    + (constant ? " = " + f.getInt(null) : ""));
             }
         }
         for (Constructor<?> c : FACE.getDeclaredConstructors()) {
